@@ -105,6 +105,14 @@ public final class FaceTest {
             int modifiers = one.getModifiers();
             Check.due(one + " is not open", Modifier.isPublic(modifiers) || Modifier.isProtected(modifiers), false);
             Check.due(one + " is static", Modifier.isStatic(modifiers), true);
+            for (Method method : one.getDeclaredMethods()) {
+                Check.due(method + " bears a public name", isOfFace(method.getName()), false);
+                Check.due(method + " is public", Modifier.isPublic(method.getModifiers()), false);
+            }
         }
+    }
+
+    private static boolean isOfFace(String name) {
+        return Arrays.stream(FACE).anyMatch(line -> line.contains(" " + name + "("));
     }
 }
