@@ -305,21 +305,13 @@ public final class Keywright {
 
     public int steps(int slot, int key)
             throws IndexOutOfBoundsException, IllegalArgumentException, NoSuchElementException {
-        checkSlot(slot);
-        checkNumber(key);
-        checkIsKey(maps[slot], key);
-        walk.forget();
-        walk.follow(maps[slot], key);
+        walkFrom(slot, key);
         return walk.length;
     }
 
     public int ring(int slot, int key)
             throws IndexOutOfBoundsException, IllegalArgumentException, NoSuchElementException {
-        checkSlot(slot);
-        checkNumber(key);
-        checkIsKey(maps[slot], key);
-        walk.forget();
-        walk.follow(maps[slot], key);
+        walkFrom(slot, key);
         return walk.ringLength();
     }
 
@@ -549,7 +541,15 @@ public final class Keywright {
         return unlikeValues(map) == map.count;
     }
 
-    // Powers and orders
+    // Ways, powers and orders
+
+    private void walkFrom(int slot, int key) {
+        checkSlot(slot);
+        checkNumber(key);
+        checkIsKey(maps[slot], key);
+        walk.forget();
+        walk.follow(maps[slot], key);
+    }
 
     private void raise(Table map, int exponent) {
         draft.becomeSelves(map);
