@@ -1,8 +1,11 @@
-import java.lang.reflect.InvocationTargetException;
-import java.lang.reflect.Method;
+import java.util.ArrayList;
+import java.util.List;
 import java.util.Random;
 
-/** Plays the same runs of 512 calls on Keywright and on MapModel; the seeds are fixed. */
+/**
+ * Plays the same runs of calls on Keywright and on MapModel; the seeds are fixed. A checksum is asked for behind each
+ * call, so that a run has at most the 512 calls for which an object is used.
+ */
 public final class ModelTest {
     /**
      * The calls, each with what its arguments are: s slot, k key, v value, m value of merge, b number of shift,
@@ -19,6 +22,10 @@ public final class ModelTest {
     };
     private static final int[] WRONG = {-2, -3, 8, 9, 256, 257, 1001, 1000000, Integer.MAX_VALUE, Integer.MIN_VALUE};
 
+    private static final int RUNS = 1200;
+    private static final int UNDONE = 10;
+    private static final int LENGTH = 512 / 2 - UNDONE;
+
     private final Random random;
     private final int keys;
     private final int slots;
@@ -31,40 +38,42 @@ public final class ModelTest {
         wrongOneIn = new int[] {20, 200}[(int) (seed / 10 % 2)];
     }
 
-    public static void main(String[] args) throws Exception {
-        for (long seed = 0; seed < 600; seed++) {
+    public static void main(String[] args) {
+        for (long seed = 0; seed < RUNS; seed++) {
             new ModelTest(seed).run("run " + seed);
         }
         Check.end("ModelTest");
     }
 
-    private void run(String name) throws Exception {
+    private void run(String name) {
         Keywright x = new Keywright();
         MapModel model = new MapModel();
-        for (int call = 0; call < 512; call++) {
+        for (int call = 0; call < LENGTH; call++) {
             String[] parts = CALLS[random.nextInt(CALLS.length)].split(" ");
             // Maps and rows that are always emptied soon never get interesting.
             if ((parts[0].equals("clear") || parts[0].equals("hush")) && random.nextInt(5) > 0) {
                 continue;
             }
-            if (call < 60 && keys > 2 && random.nextInt(3) > 0) {
+            if (call < 40 && keys > 2 && random.nextInt(3) > 0) {
                 parts = new String[] {"put", "skv"};
             }
-            Object[] arguments = argumentsFor(parts.length == 1 ? "" : parts[1]);
-            String told = name + ", call " + call + ": " + parts[0] + java.util.Arrays.toString(arguments);
-            Check.due(told, answer(x, parts[0], arguments), answer(model, parts[0], arguments));
-            Check.due(told + ", then checksum", x.checksum(), model.checksum());
+            String told = Calls.told(parts[0], argumentsFor(parts.length == 1 ? "" : parts[1]));
+            compare(name + ", call " + call + ": ", x, model, told);
         }
-        for (int times = 0; times < 10; times++) {
-            Check.due(name + ", undone", answer(x, "undo", new Object[0]), answer(model, "undo", new Object[0]));
-            Check.due(name + ", undone, then checksum", x.checksum(), model.checksum());
+        for (int times = 0; times < UNDONE; times++) {
+            compare(name + ", behind all: ", x, model, "undo()");
         }
     }
 
-    private Object[] argumentsFor(String kinds) {
-        Object[] arguments = new Object[kinds.length()];
-        for (int place = 0; place < arguments.length; place++) {
-            arguments[place] = argumentFor(kinds.charAt(place));
+    private static void compare(String place, Keywright x, MapModel model, String call) {
+        Check.due(place + call, Calls.answer(x, call), Calls.answer(model, call));
+        Check.due(place + call + ", then checksum", x.checksum(), model.checksum());
+    }
+
+    private List<Object> argumentsFor(String kinds) {
+        List<Object> arguments = new ArrayList<>();
+        for (int place = 0; place < kinds.length(); place++) {
+            arguments.add(argumentFor(kinds.charAt(place)));
         }
         return arguments;
     }
@@ -99,18 +108,5 @@ public final class ModelTest {
             default:
                 return random.nextInt(40) == 0 ? random.nextInt(257) - 1 : random.nextInt(keys) - 1;
         }
-    }
-
-    private static Object answer(Object object, String name, Object[] arguments) throws Exception {
-        for (Method method : object.getClass().getDeclaredMethods()) {
-            if (method.getName().equals(name) && method.getParameterCount() == arguments.length) {
-                try {
-                    return method.invoke(object, arguments);
-                } catch (InvocationTargetException thrown) {
-                    return "throws." + thrown.getCause().getClass().getSimpleName();
-                }
-            }
-        }
-        return "no method " + name;
     }
 }

@@ -8,10 +8,21 @@ import java.util.regex.Pattern;
 /** What of LANGUAGE.md can be read from the lines of Keywright.java; run from the root of the project. */
 public final class SourceTest {
     private static final Path SOURCE = Path.of("src/main/java/Keywright.java");
-    private static final List<String> IMPORTS =
-            List.of("import java.util.Arrays;", "import java.util.NoSuchElementException;");
-    private static final String BANNED = "\\b(package|lambda|synchronized|assert|finally|catch|try|instanceof|static \\{"
-            + "|Object|System\\.(?!arraycopy)\\w+|Thread|Random|\\w+Exact|equals|hashCode|toString|getClass)\\b|->|::";
+    private static final int MOST_LINES = 60;
+    private static final String[][] RULES = {
+        {"a package", "^package\\b"},
+        {"2: a method reference", "::"},
+        {"2: a lambda", "^(?!\\s*(case|default)\\b).*->"},
+        {"4: the library", "\\b(System\\.(?!arraycopy\\b)\\w+|\\w+Exact|Scanner|Thread|Random|Map|HashMap|Set|Object)\\b"},
+        {"5: a static block", "\\bstatic\\s*\\{"},
+        {"5: static state", "\\bstatic (?!final\\b|class\\b|abstract\\b|interface\\b|enum\\b|record\\b)[^(]*(=|;)"},
+        {"6: an exception's own", "\\b(finally|getMessage|getCause|printStackTrace)\\b|extends \\w*Exception|try \\("},
+        {"6: equals of objects", "\\b(hashCode|getClass)\\b"},
+        {"6: a lock", "\\b(synchronized|assert|volatile)\\b"},
+        {"6: what the machine throws", "catch \\(.*(Throwable|\\bException|NullPointer|ArrayIndex|ClassCast|NegativeArray"
+                + "|ArrayStore|Error)"},
+        {"10: texts joined by +", "\"\" ?\\+|\\+ ?\"\""},
+    };
 
     private SourceTest() {
     }
@@ -27,27 +38,14 @@ public final class SourceTest {
 
     private static void checkLine(String place, String line) {
         String code = line.replaceAll("//.*|^\\s*/?\\*.*", "").replaceAll("\"[^\"]*\"", "\"\"");
-        Matcher banned = Pattern.compile(BANNED).matcher(code);
-        Check.due(place + ": a word outside the language", banned.find() ? banned.group() : "", "");
-        Check.due(place + ": signs", line.chars().allMatch(sign -> sign >= 32 && sign < 127), true);
+        for (String[] rule : RULES) {
+            Matcher found = Pattern.compile(rule[1]).matcher(code);
+            Check.due(place + ", rule " + rule[0], found.find() ? found.group() : "", "");
+        }
+        Check.due(place + ", rule 4: signs", line.chars().allMatch(sign -> sign >= 1 && sign < 128), true);
         if (code.startsWith("import")) {
-            Check.due(place + ": an import", IMPORTS.contains(code), true);
-        }
-        if (code.contains("static ") && code.contains(" = ")) {
-            Check.due(place + ": static state", code.contains("private static final"), true);
-        }
-        checkRoom(place, code);
-    }
-
-    /** What a call makes is never given back: beside exceptions, only fields and constructors make anything. */
-    private static void checkRoom(String place, String code) {
-        if (code.contains("new ") && !code.contains("throw new ")) {
-            boolean isField = code.contains("private final ");
-            boolean isInConstructor = code.matches("\\s+(maps\\[slot\\]|held\\[place\\]) = new Table\\(\\);");
-            Check.due(place + ": made in a field or a constructor", isField || isInConstructor, true);
-        }
-        if (code.contains("while (") || code.contains("do {")) {
-            Check.due(place + ": a loop with a bound", code.contains(" < NUMBERS"), true);
+            boolean isAllowed = code.matches("import java\\.util\\.(ArrayList|Arrays|Iterator|List|NoSuchElementException);");
+            Check.due(place + ", rule 4: an import", isAllowed, true);
         }
     }
 
@@ -59,7 +57,7 @@ public final class SourceTest {
                 start = index;
             }
             if (line.matches("    (    )?}") && start >= 0) {
-                Check.due(SOURCE + ":" + (start + 1) + ": a short method", index - start < 60, true);
+                Check.due(SOURCE + ":" + (start + 1) + ", rule 11: a short method", index - start < MOST_LINES, true);
                 start = -1;
             }
         }
