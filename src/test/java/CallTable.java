@@ -12,6 +12,17 @@ final class CallTable {
             return Calls.told(name, arguments);
         }
 
+        /** The same call with its keys and values counted from the greatest one down, 0 and none aside. */
+        Entry mirrored() {
+            Entry mirrored = this;
+            for (int place = 0; place < kinds.length(); place++) {
+                if (kinds.charAt(place) == 'k' && (int) arguments.get(place) > 0) {
+                    mirrored = mirrored.with(place, 256 - (int) arguments.get(place));
+                }
+            }
+            return mirrored;
+        }
+
         /** The same call with another argument. */
         Entry with(int place, Object argument) {
             List<Object> others = new ArrayList<>(arguments);
@@ -100,6 +111,22 @@ final class CallTable {
             return text.charAt(0);
         }
         return kind == 'n' ? (Object) Boolean.valueOf(text) : (Object) Integer.valueOf(text);
+    }
+
+    /** The calls that make an object with these maps and this row. */
+    static List<Entry> making() {
+        List<Entry> making = new ArrayList<>();
+        for (int slot = 0; slot < MAPS.length; slot++) {
+            for (int[] pair : Given.pairs(MAPS[slot])) {
+                making.add(new Entry(2, "put", "skk", List.of(slot, pair[0], pair[1])));
+            }
+        }
+        for (int[] word : Given.pairs(ROW)) {
+            boolean isTaking = word[1] == -2;
+            making.add(isTaking ? new Entry(40, "unsay", "k", List.of(word[0]))
+                    : new Entry(39, "say", "kk", List.of(word[0], word[1])));
+        }
+        return making;
     }
 
     /** The calls of writing and of cutting, and the others that let a slot become something. */

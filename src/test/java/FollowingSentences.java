@@ -146,6 +146,10 @@ final class FollowingSentences {
         Sentence least = Sentence.of(38, "Returns the order of a map: the least number above 0, such that its power of"
                 + " this number has each key with itself.");
         String map = rings(5, 7, 9);
+        // Following a key ahead leaves no trace that the order could find, nor the other way round.
+        least.from(map).after("steps(0, 0)").after("ring(0, 5)").due("order(0)", 315).due("order(0)", 315)
+                .due("steps(0, 0)", 5).due("ring(0, 5)", 7).after("order(0)").due("ring(0, 20)", "throws."
+                        + "NoSuchElementException").due("steps(0, 19)", 9).due("order(0)", 315);
         least.from(map).due("order(0)", 315).after("power(0, 0, 1)").after("power(0, 315, 2)").due("isSame(1, 2)", true)
                 .after("power(0, 630, 2)").due("isSame(1, 2)", true);
         for (int exponent = 1; exponent < 315; exponent++) {

@@ -84,7 +84,8 @@ final class Given {
         return text.toString();
     }
 
-    private static List<int[]> pairs(String text) {
+    /** The pairs of numbers of a text. */
+    static List<int[]> pairs(String text) {
         List<int[]> pairs = new ArrayList<>();
         for (String pair : text.trim().split("\\s+")) {
             if (!pair.isEmpty()) {

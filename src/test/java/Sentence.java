@@ -76,7 +76,7 @@ final class Sentence {
         return compare("all of it", got, want);
     }
 
-    /** The call throws on an object as given or as told last, and changes nothing of it, nor of what undo gives back. */
+    /** The call throws on an object as told last, and changes nothing of it, nor of what undo gives back. */
     Sentence refuses(String call, String exception) {
         Keywright asked = Given.object(row, maps);
         compare(call, Calls.answer(asked, call), "throws." + exception);

@@ -12,6 +12,7 @@ public final class SentencesTest {
         KeepingSentences.check();
         SlotSentences.check();
         NumberSentences.check();
+        EachNumberSentences.check();
         RefusedSentences.check();
         WritingSentences.check();
         AskingSentences.check();

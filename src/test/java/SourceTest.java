@@ -8,19 +8,21 @@ import java.util.regex.Pattern;
 /** What of LANGUAGE.md can be read from the lines of Keywright.java; run from the root of the project. */
 public final class SourceTest {
     private static final Path SOURCE = Path.of("src/main/java/Keywright.java");
-    private static final int MOST_LINES = 60;
+    private static final int MOST_LINES = 65;
     private static final String[][] RULES = {
         {"a package", "^package\\b"},
         {"2: a method reference", "::"},
         {"2: a lambda", "^(?!\\s*(case|default)\\b).*->"},
-        {"4: the library", "\\b(System\\.(?!arraycopy\\b)\\w+|\\w+Exact|Scanner|Thread|Random|Map|HashMap|Set|Object)\\b"},
+        {"4: the library", "\\b(System\\.(?!arraycopy\\b)\\w+|\\w+Exact|Scanner|Thread|Random|Object)\\b"},
+        {"4: the library by its path", "^(?!import).*\\bjavax?\\."},
         {"5: a static block", "\\bstatic\\s*\\{"},
-        {"5: static state", "\\bstatic (?!final\\b|class\\b|abstract\\b|interface\\b|enum\\b|record\\b)[^(]*(=|;)"},
+        {"5: static state", "^(?!.*\\bfinal\\b).*\\bstatic (?!class\\b|abstract\\b|interface\\b|enum\\b|record\\b)"
+                + "[^(]*(=|;)"},
         {"6: an exception's own", "\\b(finally|getMessage|getCause|printStackTrace)\\b|extends \\w*Exception|try \\("},
         {"6: equals of objects", "\\b(hashCode|getClass)\\b"},
         {"6: a lock", "\\b(synchronized|assert|volatile)\\b"},
-        {"6: what the machine throws", "catch \\(.*(Throwable|\\bException|NullPointer|ArrayIndex|ClassCast|NegativeArray"
-                + "|ArrayStore|Error)"},
+        {"6: what the machine throws", "catch \\(.*(Throwable|\\bException|NullPointer|ArrayIndex|ClassCast"
+                + "|NegativeArray|ArrayStore|Error)"},
         {"10: texts joined by +", "\"\" ?\\+|\\+ ?\"\""},
     };
 
@@ -44,7 +46,8 @@ public final class SourceTest {
         }
         Check.due(place + ", rule 4: signs", line.chars().allMatch(sign -> sign >= 1 && sign < 128), true);
         if (code.startsWith("import")) {
-            boolean isAllowed = code.matches("import java\\.util\\.(ArrayList|Arrays|Iterator|List|NoSuchElementException);");
+            String allowed = "import java\\.util\\.(ArrayList|Arrays|Iterator|List|NoSuchElementException);";
+            boolean isAllowed = code.matches(allowed);
             Check.due(place + ", rule 4: an import", isAllowed, true);
         }
     }

@@ -183,6 +183,16 @@ final class TermsSentences {
         s.withRow("1:2 1:3 2:4 2:-2 3:-2 3:-1", "8:8").due("play(0)", 2).then("1:3 3:-1");
         s.withRow("1:-2 1:2", "1:7").due("play(0)", 1).then("1:2");
         s.withRow("1:2 1:-2", "1:7").due("play(0)", 0).then("");
+        // Whatever was made of other maps ahead, nothing of it is in the one that it is played on.
+        for (String call : new String[] {
+            "copy(0, 1)", "join(0, 1, 1)", "power(0, 0, 1)", "turn(0, 1)", "isSound()", "play(1)",
+            "playLast(1, true)",
+        }) {
+            s.withRow("4:5", "-1:0 255:-1").after(call).after("copy(0, 1)").due("play(2)", 1)
+                    .then("-1:0 255:-1", "-1:0 255:-1", "4:5").after(call).after("copy(0, 1)")
+                    .due("playLast(3, false)", 1).due("playLast(4, true)", 1)
+                    .then("-1:0 255:-1", "-1:0 255:-1", "4:5", "4:5", "4:5");
+        }
         Sentence last = Sentence.of(0, "The last words are those that no later one of their key follows.");
         last.withRow("1:2 1:2").due("lastWords()", 1);
         last.withRow("1:2 -1:2 1:-2 0:3 -1:2").due("lastWords()", 3).due("playLast(0, false)", 2).then("-1:2 0:3");
