@@ -28,7 +28,7 @@ final class Document {
         return parts;
     }
 
-    private static String content() {
+    static String content() {
         try {
             return Files.readString(Path.of("../shared/DOC.md"));
         } catch (IOException thrown) {

@@ -3,36 +3,40 @@ import java.lang.reflect.Field;
 import java.lang.reflect.Method;
 import java.lang.reflect.Modifier;
 import java.util.Arrays;
+import java.util.Set;
 import java.util.TreeSet;
+import java.util.regex.Matcher;
+import java.util.regex.Pattern;
 import java.util.stream.Collectors;
 
-/** The public face is the document's one, and nothing but private members and classes stands beside it. */
+/** The public face is the one of ../shared/DOC.md, and nothing but private members and classes stands beside it. */
 public final class FaceTest {
-    private static final String[] FACE = {
-        "int put(int,int,int) I A", "int putFirst(int,int,int) I A", "int change(int,int,int) I A",
-        "boolean changeIf(int,int,int,int) I A", "int take(int,int) I A", "boolean takeIf(int,int,int) I A",
-        "int merge(int,int,int,char) I A", "int compute(int,int,char) I A", "int clear(int) I",
-        "int get(int,int) I A", "int getOr(int,int,int) I A", "boolean has(int,int) I A",
-        "boolean hasValue(int,int) I A", "int size(int) I", "int kinds(int) I", "int keyAt(int,int) I N",
-        "boolean isSame(int,int) I", "boolean areSameKeys(int,int) I", "boolean areSameValues(int,int) I",
-        "int hash(int) I", "int keysHash(int) I", "int dropValue(int,int) I A", "int dropOdd(int) I",
-        "int shift(int,int) I A", "int copy(int,int) I", "int join(int,int,int) I", "int less(int,int,int) I",
-        "int common(int,int,int) I", "int alike(int,int,int) I", "int behind(int,int,int) I",
-        "int turn(int,int) I U", "int power(int,int,int) I A", "boolean isInto(int) I", "int fixed(int) I",
-        "int steps(int,int) I A N", "int ring(int,int) I A N", "long order(int) I U", "int say(int,int) A S",
-        "int unsay(int) A S", "int hush()", "int stir(int) A", "int play(int) I", "int playLast(int,boolean) I",
-        "int lastWords()", "int undo() N", "float share(int) I D", "double meanSize()", "long checksum()",
-        "boolean isSound()",
-    };
+    private static final Pattern METHOD = Pattern.compile(
+            "public (\\w+) (\\w+)\\(([^)]*)\\)(?: throws ([\\w, ]+))?;");
+    private static final Set<String> FACE = new TreeSet<>();
+    private static final Set<String> NAMES = new TreeSet<>();
 
     private FaceTest() {
     }
 
     public static void main(String[] args) {
+        readFace();
         checkClass();
         checkMethods();
         checkClassesInside();
         Check.end("FaceTest");
+    }
+
+    /** The methods of the face, as DOC.md has them, without the names of what they are given. */
+    private static void readFace() {
+        Matcher method = METHOD.matcher(Document.content());
+        while (method.find()) {
+            String types = method.group(3).replaceAll(" \\w+(, )?", "$1").replace(", ", ",");
+            String thrown = method.group(4) == null ? "" : " throws " + method.group(4);
+            FACE.add(method.group(1) + " " + method.group(2) + "(" + types + ")" + thrown);
+            NAMES.add(method.group(2));
+        }
+        Check.due("as many methods as promises beside the first one", FACE.size(), Document.promises() - 1);
     }
 
     private static void checkClass() {
@@ -49,53 +53,25 @@ public final class FaceTest {
 
     private static void checkMethods() {
         TreeSet<String> open = new TreeSet<>();
-        TreeSet<String> openNames = new TreeSet<>();
         for (Method method : Keywright.class.getDeclaredMethods()) {
             if (!Modifier.isPrivate(method.getModifiers()) && !method.isSynthetic()) {
+                Check.due(method + " is public", Modifier.isPublic(method.getModifiers()), true);
                 open.add(told(method));
-                openNames.add(method.getName());
+            } else {
+                Check.due(method + " bears a public name", NAMES.contains(method.getName()), false);
             }
         }
-        TreeSet<String> due = new TreeSet<>(Arrays.asList(FACE));
-        due.removeIf(open::contains);
-        Check.due("what of the face is missing", due.toString(), "[]");
-        open.removeAll(Arrays.asList(FACE));
-        Check.due("what is open beside the face", open.toString(), "[]");
-        for (Method method : Keywright.class.getDeclaredMethods()) {
-            if (Modifier.isPrivate(method.getModifiers())) {
-                Check.due(method + " bears a public name", openNames.contains(method.getName()), false);
-            }
-        }
+        Check.due("the methods of the face", open, FACE);
     }
 
     private static String told(Method method) {
-        String types = Arrays.stream(method.getParameterTypes()).map(Class::getName).collect(Collectors.joining(","));
-        StringBuilder text = new StringBuilder();
-        text.append(method.getReturnType().getName()).append(' ').append(method.getName());
-        text.append('(').append(types).append(')');
-        for (Class<?> thrown : method.getExceptionTypes()) {
-            text.append(' ').append(letterOf(thrown.getSimpleName()));
-        }
-        return text.toString();
+        String thrown = names(method.getExceptionTypes(), ", ");
+        return method.getReturnType().getName() + " " + method.getName()
+                + "(" + names(method.getParameterTypes(), ",") + ")" + (thrown.isEmpty() ? "" : " throws " + thrown);
     }
 
-    private static String letterOf(String thrown) {
-        switch (thrown) {
-            case "IndexOutOfBoundsException":
-                return "I";
-            case "IllegalArgumentException":
-                return "A";
-            case "NoSuchElementException":
-                return "N";
-            case "UnsupportedOperationException":
-                return "U";
-            case "IllegalStateException":
-                return "S";
-            case "ArithmeticException":
-                return "D";
-            default:
-                return thrown;
-        }
+    private static String names(Class<?>[] types, String between) {
+        return Arrays.stream(types).map(Class::getSimpleName).collect(Collectors.joining(between));
     }
 
     private static void checkClassesInside() {
@@ -107,12 +83,8 @@ public final class FaceTest {
             Check.due(one + " is static", Modifier.isStatic(modifiers), true);
             for (Method method : one.getDeclaredMethods()) {
                 boolean isPrivate = Modifier.isPrivate(method.getModifiers());
-                Check.due(method + " bears a public name", isPrivate && isOfFace(method.getName()), false);
+                Check.due(method + " bears a public name", isPrivate && NAMES.contains(method.getName()), false);
             }
         }
-    }
-
-    private static boolean isOfFace(String name) {
-        return Arrays.stream(FACE).anyMatch(line -> line.contains(" " + name + "("));
     }
 }
